@@ -701,6 +701,7 @@ final class CallEdges {
             waiting(0, 3, 5, 7) 0
             waiting(1, 1, 5, 7) 1
             waiting(1, 2, 5, 7) 0
+            waiting(0, 4294967297, 5, 7) 0
             pass(0, 6) 4
             waiting(0, 1, 5, 7) 1
             """);

@@ -43,6 +43,36 @@ final class KeptEdges {
             pass(0, 5) 1
             timers() 1@6 2@7
             """);
+        // Others that wait meanwhile, unlike in everything, take nothing from what is kept.
+        doc.test("13", "What WAITS", """
+            set(1, 1, 5, 2, 3) 0
+            set(1, 2, 6, 4, 1) 1
+            row(3, 4) 0
+            row(2, 4) 1
+            keep() 0
+            cancel(0) true
+            cancel(1) true
+            pass(0, 4) 2
+            set(0, 7, 35, 8, 9) 2
+            set(0, 8, 36, 6, 7) 3
+            row(9, 40) 2
+            row(8, 41) 3
+            back(0) 2
+            timers() 0@5 1@6
+            told(0, 0) 1
+            told(0, 1) 1
+            told(0, 3) 2
+            told(0, 4) 3
+            told(1, 0) 1
+            told(1, 1) 2
+            told(1, 3) 4
+            told(1, 4) 1
+            pass(0, 4) 2
+            order() r1 r0
+            done(0, 2) 2
+            done(1, 2) 3
+            done(1, 3) 4
+            """);
         doc.test("13", "both NOWS", """
             keep() 0
             pass(0, 5) 0

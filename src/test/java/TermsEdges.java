@@ -15,6 +15,7 @@ final class TermsEdges {
         orderByTime();
         orderOfRowsAndTimers();
         orderByKeyAndNumber();
+        orderOfFullLines();
         passUpToNow();
         passSetsAgain();
         passDoesWhatItSets();
@@ -270,6 +271,27 @@ final class TermsEdges {
             pass(0, 5) 7
             order() r0 r1 r2 t2 t9 t10 t11
             """);
+        test("then by number", "40 x set(0, 1, 5, 0, 0) *\n40 x row(1, 5) *\npass(0, 5) 80\norder() "
+                + numbered("r", 1) + " " + numbered("t", 1));
+    }
+
+    /** 40 of each wait, and each comes in at another place of THE ORDER than the one ahead of it. */
+    private void orderOfFullLines() {
+        StringBuilder lines = new StringBuilder();
+        for (int number = 0; number < 40; number++) {
+            lines.append("set(0, " + 23 * number % 40 + ", 5, 0, 0) " + number + "\n");
+            lines.append("row(" + 17 * number % 40 + ", 5) " + number + "\n");
+        }
+        // 7 times 23 and 33 times 17 leave 1 in 40: so these steps lead from one key to the next above it.
+        test("by KEY", lines + "pass(0, 5) 80\norder() " + numbered("r", 33) + " " + numbered("t", 7));
+    }
+
+    private static String numbered(String kind, int step) {
+        StringBuilder all = new StringBuilder();
+        for (int n = 0; n < 40; n++) {
+            all.append(n == 0 ? "" : " ").append(kind).append(step * n % 40);
+        }
+        return all.toString();
     }
 
     private void passUpToNow() {
