@@ -1,6 +1,6 @@
 import java.io.IOException;
 
-/** Each sentence of the document's Terms and promises has a run of calls of its own, on the edges that it names. */
+/** Each sentence of the document has a run of calls of its own, on the edges that it names. */
 public final class EdgesTest {
     private EdgesTest() {
     }

@@ -1,6 +1,7 @@
 import java.util.ArrayList;
 import java.util.List;
 import java.util.Random;
+import java.util.function.Supplier;
 
 /** Many runs of random calls, each answered by TimerRows and by the Model; seeds are fixed, so runs repeat. */
 public final class ModelTest {
@@ -17,10 +18,6 @@ public final class ModelTest {
     private final int wrongShare;
     private final long lastTime;
     private final boolean fills;
-
-    private interface Call {
-        Object answer();
-    }
 
     private ModelTest(long seed) {
         random = new Random(seed);
@@ -187,23 +184,15 @@ public final class ModelTest {
         return true;
     }
 
-    private boolean alike(String call, Call mine, Call theirs) {
-        String got = text(mine);
-        String due = text(theirs);
+    private boolean alike(String call, Supplier<Object> mine, Supplier<Object> theirs) {
+        String got = Seen.text(mine);
+        String due = Seen.text(theirs);
         told.add(call + " " + got);
         if (got.equals(due)) {
             return true;
         }
         told.add("but due is " + due);
         return false;
-    }
-
-    private static String text(Call call) {
-        try {
-            return String.valueOf(call.answer());
-        } catch (RuntimeException e) {
-            return "throws." + e.getClass().getSimpleName();
-        }
     }
 
     private boolean odd() {

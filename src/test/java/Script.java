@@ -2,7 +2,6 @@ import java.lang.reflect.InvocationTargetException;
 import java.lang.reflect.Method;
 import java.util.ArrayList;
 import java.util.List;
-import java.util.NoSuchElementException;
 
 /**
  * Runs of calls written as text, on a new object each. A line is a call and the answer that is due:
@@ -36,7 +35,7 @@ final class Script {
                 }
             }
         }
-        if (!goesOn(x).equals(goesOn(spared))) {
+        if (!Seen.goesOn(x).equals(Seen.goesOn(spared))) {
             tell(name + ": goes on otherwise than without the calls that throw");
         }
     }
@@ -70,23 +69,23 @@ final class Script {
     }
 
     private static void oneCall(String name, TimerRows x, String call, String due) {
-        String before = due.startsWith("throws.") ? seen(x) : "";
+        String before = due.startsWith("throws.") ? Seen.all(x) : "";
         String got = answer(x, call);
         boolean right = due.equals("*") ? !got.startsWith("throws.") : got.equals(due);
         if (!right) {
             tell(name + ": " + call + " answered " + got + ", due is " + due);
         }
-        if (due.startsWith("throws.") && !seen(x).equals(before)) {
+        if (due.startsWith("throws.") && !Seen.all(x).equals(before)) {
             tell(name + ": " + call + " throws, but changed something");
         }
     }
 
     static String answer(TimerRows x, String call) {
         if (call.equals("order()")) {
-            return order(x);
+            return Seen.order(x);
         }
         if (call.equals("timers()")) {
-            return timers(x);
+            return Seen.timers(x);
         }
         int open = call.indexOf('(');
         String name = call.substring(0, open).strip();
@@ -132,76 +131,5 @@ final class Script {
 
     private static Long end(String word, long least, long most) {
         return word.equals("least") ? least : word.equals("most") ? most : Long.parseLong(word);
-    }
-
-    private static String order(TimerRows x) {
-        StringBuilder s = new StringBuilder();
-        for (int i = 0; i < x.of(6); i++) {
-            s.append(x.done(i, 0) == 1 ? " t" : " r").append(x.done(i, 1));
-        }
-        return s.isEmpty() ? "-" : s.substring(1);
-    }
-
-    private static String timers(TimerRows x) {
-        StringBuilder s = new StringBuilder();
-        for (int timer = 0; timer < x.of(2); timer++) {
-            if (waits(x, timer)) {
-                s.append(' ').append(timer).append('@').append(x.told(timer, 2));
-            }
-        }
-        return s.isEmpty() ? "-" : s.substring(1);
-    }
-
-    private static boolean waits(TimerRows x, int timer) {
-        try {
-            x.told(timer, 0);
-            return true;
-        } catch (NoSuchElementException e) {
-            return false;
-        }
-    }
-
-    /** All that can be seen of an object by calls that change nothing (or change it and back). */
-    static String seen(TimerRows x) {
-        StringBuilder s = new StringBuilder();
-        for (int what = 0; what <= 6; what++) {
-            s.append(x.of(what)).append(' ');
-        }
-        for (int clock = 0; clock <= 1; clock++) {
-            s.append(x.now(clock)).append(' ').append(x.next(clock)).append(' ');
-        }
-        for (int task = 0; task < 128; task++) {
-            s.append(x.load(task, 128)).append(' ');
-        }
-        for (int timer = 0; timer < x.of(2); timer++) {
-            for (int what = 0; what <= 4 && waits(x, timer); what++) {
-                s.append(x.told(timer, what)).append(' ');
-            }
-        }
-        for (int i = 0; i < x.of(6); i++) {
-            for (int what = 0; what <= 4; what++) {
-                s.append(x.done(i, what)).append(' ');
-            }
-        }
-        boolean rowsFirst = x.first(true);
-        x.first(rowsFirst);
-        return s.append(rowsFirst).toString();
-    }
-
-    /** All that an object holds, brought to light: both clocks go on to the end, from now and from all it keeps. */
-    private static String goesOn(TimerRows x) {
-        StringBuilder s = new StringBuilder(seen(x));
-        toTheEnd(x, s);
-        for (int place = 0; place < x.of(5); place++) {
-            s.append("\nback ").append(x.back(place)).append(' ').append(seen(x));
-            toTheEnd(x, s);
-        }
-        return s.toString();
-    }
-
-    private static void toTheEnd(TimerRows x, StringBuilder s) {
-        for (int clock = 0; clock <= 1; clock++) {
-            s.append("\npass ").append(x.pass(clock, 1_000_000_000_000L)).append(' ').append(seen(x));
-        }
     }
 }

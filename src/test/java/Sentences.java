@@ -7,9 +7,9 @@ import java.util.regex.Matcher;
 import java.util.regex.Pattern;
 
 /**
- * The sentences of the document's Terms and promises, and which of their words a run of calls tests. A run names
- * the section ("Terms", or a promise's number) and quotes the words; words that do not stand there are told as a
- * fault, and so is each part of a sentence that no run quotes.
+ * The sentences of the document, from "What it is" to promise 19, and which of their words a run of calls tests. A
+ * run names the section ("What it is", "Terms", or a promise's number) and quotes the words; words that do not
+ * stand there are told as a fault, and so is each part of a sentence that no run quotes.
  */
 final class Sentences {
     private static final Path DOCUMENT = Path.of("../shared/DOC.md");
@@ -24,7 +24,10 @@ final class Sentences {
             String title = section.substring(0, end);
             // A promise begins with its signature between back quotes, which FaceTest looks at.
             String text = section.substring(end).replaceFirst("^\\s*`[^`]*`: ", "").strip();
-            if (title.equals("Terms")) {
+            if (title.equals("What it is")) {
+                // Ahead of its sign for the first sentence stands what the whole is about.
+                add("What it is", text.substring(text.indexOf("======== 1 ") + "======== 1 ".length()));
+            } else if (title.equals("Terms")) {
                 add("Terms", text);
             } else if (title.startsWith("Promise ")) {
                 add(title.substring("Promise ".length(), title.indexOf(':')), text);
@@ -52,8 +55,8 @@ final class Sentences {
     }
 
     void allAreQuoted() {
-        if (texts.size() != 20) {
-            Script.tell("the document has " + texts.size() + " sections, due are Terms and 19 promises");
+        if (texts.size() != 21) {
+            Script.tell("the document has " + texts.keySet() + ", due are What it is, Terms and 19 promises");
         }
         for (String section : texts.keySet()) {
             Matcher part = PART.matcher(texts.get(section));

@@ -1,4 +1,4 @@
-/** The sentences of the Terms, each with runs of its own. */
+/** The sentences of "What it is" and of the Terms, each with runs of its own. */
 final class TermsEdges {
     private final Sentences doc;
 
@@ -7,6 +7,7 @@ final class TermsEdges {
     }
 
     void run() {
+        whatItIs();
         clocksAndKeys();
         times();
         gaps();
@@ -25,6 +26,40 @@ final class TermsEdges {
 
     private void test(String words, String lines) {
         doc.test("Terms", words, lines);
+    }
+
+    private void whatItIs() {
+        doc.test("What it is", "TIMERS are numbered 0, 1, .. as they are set, by calls or in a PASS", """
+            row(1, 9) 0
+            set(0, 9, 5, 1, 2) 0
+            set(0, 9, 5, 1, 51) throws.IllegalArgumentException
+            set(1, 8, 5, 0, 0) 1
+            pass(0, 5) 1
+            timers() 1@5 2@6
+            set(1, 7, 9, 0, 0) 3
+            pass(0, 7) 2
+            order() t2 t4
+            cancel(3) true
+            set(0, 1, 9, 0, 0) 5
+            """);
+        doc.test("What it is", "40 WAIT at most.", """
+            39 x set(0, 1, 5, 1, 1) *
+            set(1, 1, 5, 1, 1) 39
+            set(0, 1, 5, 1, 1) throws.IllegalStateException
+            set(1, 1, 5, 1, 1) throws.IllegalStateException
+            pass(0, 5) 39
+            of(0) 40
+            set(0, 1, 5, 1, 1) throws.IllegalStateException
+            pass(0, 6) 39
+            of(0) 1
+            set(0, 1, 5, 1, 1) 79
+            """);
+        doc.test("What it is", "An object is used for at most 512 calls after it has been made; "
+                + "what later calls answer is free.", """
+            pass(0, 5) 0
+            510 x row(1, 5) -1
+            of(4) 510
+            """);
     }
 
     private void clocksAndKeys() {
@@ -157,6 +192,14 @@ final class TermsEdges {
             of(3) 40
             pass(0, 5) 40
             row(1, 6) 40
+            """);
+        test("40 WAIT at most", """
+            40 x set(0, 1, 5, 0, 0) *
+            40 x row(1, 5) *
+            row(1, 5) throws.IllegalStateException
+            set(0, 1, 5, 0, 0) throws.IllegalStateException
+            of(0) 40
+            of(1) 40
             """);
         test("each has a KEY and a TIME, and is of EVENTS", """
             row(-3, 5) 0
