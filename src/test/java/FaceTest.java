@@ -1,43 +1,35 @@
+import java.io.IOException;
 import java.lang.reflect.Constructor;
 import java.lang.reflect.Field;
 import java.lang.reflect.Method;
 import java.lang.reflect.Modifier;
+import java.util.ArrayList;
 import java.util.Arrays;
+import java.util.List;
 import java.util.Set;
 import java.util.TreeSet;
 
 /** The public face is the document's, word for word, and no private method bears a public one's name. */
 public final class FaceTest {
-    private static final String[] FACE = {
-        "public int clear()",
-        "public int set(int,long,long,long,int) throws IllegalArgumentException,IllegalStateException",
-        "public long move(int,long) throws IllegalArgumentException,NoSuchElementException",
-        "public boolean cancel(int)",
-        "public int row(long,long) throws IllegalArgumentException,IllegalStateException",
-        "public boolean first(boolean)",
-        "public int pass(int,long) throws IllegalArgumentException",
-        "public long done(int,int) throws IllegalArgumentException,NoSuchElementException",
-        "public long told(int,int) throws IllegalArgumentException,NoSuchElementException",
-        "public int next(int) throws IllegalArgumentException",
-        "public int waiting(int,long,long,long) throws IllegalArgumentException",
-        "public int keep() throws IllegalStateException",
-        "public int back(int) throws IllegalArgumentException",
-        "public int forget() throws IllegalStateException",
-        "public int task(long,int) throws IllegalArgumentException",
-        "public int load(int,int) throws IllegalArgumentException",
-        "public int of(int) throws IllegalArgumentException",
-        "public long now(int) throws IllegalArgumentException",
-    };
-
     private FaceTest() {
     }
 
-    public static void main(String[] args) {
+    public static void main(String[] args) throws IOException {
+        Face face = new Face();
+        theDocument(face);
         theClass();
-        theMethods();
-        theFields();
+        theMethods(face);
+        theFields(face);
         theClassesInside();
         Script.end();
+    }
+
+    private static void theDocument(Face face) {
+        List<String> due = new ArrayList<>(face.members());
+        due.removeIf(member -> !member.contains("("));
+        if (due.size() != 19 || !face.promised().equals(due)) {
+            Script.tell("the promises are of " + face.promised() + ", the face is " + due);
+        }
     }
 
     private static void theClass() {
@@ -51,7 +43,7 @@ public final class FaceTest {
         }
     }
 
-    private static void theMethods() {
+    private static void theMethods(Face face) {
         Set<String> open = new TreeSet<>();
         Set<String> openNames = new TreeSet<>();
         Set<String> hiddenNames = new TreeSet<>();
@@ -64,7 +56,8 @@ public final class FaceTest {
                         .replace("java.util.", ""));
             }
         }
-        Set<String> due = new TreeSet<>(Arrays.asList(FACE));
+        Set<String> due = new TreeSet<>(face.calls());
+        due.remove("public TimerRows()");
         if (!open.equals(due)) {
             Script.tell("the methods are " + open + ", due are " + due);
         }
@@ -74,7 +67,10 @@ public final class FaceTest {
         }
     }
 
-    private static void theFields() {
+    private static void theFields(Face face) {
+        if (!face.members().contains("public static final long NONE = -1L")) {
+            Script.tell("the document's face has no NONE of -1");
+        }
         for (Field field : TimerRows.class.getDeclaredFields()) {
             int modifiers = field.getModifiers();
             boolean isNone = field.getName().equals("NONE");
